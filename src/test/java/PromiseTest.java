@@ -578,6 +578,26 @@ public final class PromiseTest {
         dueOdds(x, 3, 3, 10);
         x = told(97, "s0,0,0,0,0,1,2,3,4,5,6");
         dueOdds(x, 3, 3, 10);
+        x = told(7, "s3");
+        dueOdds(x, 3, 3, 10);
+        letters(x, "s3,0,0");
+        x.matrix();
+        dueOdds(x, 3, 1, 1);
+        x = told(97, "s1,2,3,4,5,6,7,8,9,10,11");
+        dueOdds(x, 10, 1, 1);
+        x.change(0, 50);
+        dueOdds(x, 10, 1, 1);
+        dueOdds(told(7, "s0,2,3"), 1, 1, 10);
+        x = told(7, "s1,2,4");
+        dueOdds(x, 0, 1, 1);
+        x.prime(3);
+        // By 3 the last one is 1: 4 less 1 is 0 again.
+        dueOdds(x, 0, 1, 1);
+        x = told(7, "s1,2,1");
+        dueOdds(x, 0, 0, 1);
+        x.prime(3);
+        // No number is another one, but 4 less 1 is 0 by 3.
+        dueOdds(x, 0, 1, 1);
     }
 
     private static void imageAndRestore() {
