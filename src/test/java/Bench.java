@@ -60,6 +60,15 @@ abstract class Bench {
         }
     }
 
+    /** The first number of THE LINE becomes each one from the one to the other. */
+    static String changes(int from, int to) {
+        StringBuilder calls = new StringBuilder();
+        for (int v = from; v <= to; v++) {
+            calls.append("change(0, ").append(v).append(");");
+        }
+        return calls.toString();
+    }
+
     /** What the two texts make is alike in all that can be seen. */
     final void alike(String script, String other) {
         String got = Look.at(script);

@@ -73,7 +73,8 @@ public final class DoneEdgeTest extends Bench {
         leaves("", NOT, "shape(0)");
         leaves("shape(4)", NOT, "shape(4)");
         says(11, "SHAPED: the KIND it was");
-        run("shape(4) = 0; count(1) = 4; shape(0) = 4; count(1) = 0; shape(1) = 0; shape(2) = 1; shape(3) = 2; shape(4) = 3");
+        run("shape(4) = 0; count(1) = 4; shape(0) = 4; count(1) = 0; shape(1) = 0; shape(2) = 1; shape(3) = 2;"
+            + "shape(4) = 3");
         says(11, "SHAPED: the KIND alone is another one");
         run(WIDEST + "shape(3) = 0; LINE = 1,2,3,4,5,6,0,1,2,3,4; RIGHT = 5,6,0,1,2,3; count(0) = 6; count(7) = 1");
     }
@@ -81,7 +82,8 @@ public final class DoneEdgeTest extends Bench {
     private void widen() {
         says(12, "FULL: it is 6");
         leaves(WIDEST + "turn(); image();", FULL, "widen()");
-        run("widen() = 2; widen() = 3; widen() = 4; widen() = 5; widen() = 6; widen() = FULL; count(0) = 6; count(7) = 5");
+        run("widen() = 2; widen() = 3; widen() = 4; widen() = 5; widen() = 6; widen() = FULL; count(0) = 6;"
+            + "count(7) = 5");
         saysTerm(1, "WIDER: WIDTH is 1 more");
         run("'b1,2,3,4,5,6,0,1,2=3,4,5,6,1'; matrix() = 5; widen() = 6; count(0) = 6; count(1) = 1; count(7) = 1");
         saysTerm(1, "THE LINE has a 0 more ahead of all, and one behind");
@@ -100,7 +102,8 @@ public final class DoneEdgeTest extends Bench {
         leaves("'n3=4'; matrix(); turn(); image();", NOT, "cut()");
         run("widen(); cut() = 1; cut() = NOT; count(0) = 1; count(7) = 2");
         saysTerm(1, "CUT: WIDTH is 1 less");
-        run(WIDEST + "cut() = 5; cut() = 4; cut() = 3; cut() = 2; cut() = 1; cut() = NOT; count(7) = 5; LINE = 6; RIGHT = 5");
+        run(WIDEST + "cut() = 5; cut() = 4; cut() = 3; cut() = 2; cut() = 1; cut() = NOT; count(7) = 5;"
+            + "LINE = 6; RIGHT = 5");
         saysTerm(1, "the first and the last of THE LINE, the last of THE RIGHT are gone");
         run(WIDEST + "cut() = 5; LINE = 2,3,4,5,6,0,1,2,3; RIGHT = 5,6,0,1,2");
         run("'b1,2,3=4,5'; matrix(); cut() = 1; LINE = 2; RIGHT = 4; count(1) = 1");
@@ -145,9 +148,10 @@ public final class DoneEdgeTest extends Bench {
         run("seed(1); drift(1); seed(1) = 1103527590");
         run("seed(MOST); drift(1); seed(1) = 1043980748");
         run("seed(1073741824); drift(1); seed(1) = 1073754169");
-        saysTerm(3, "the place that it is by 65536, left over by how many there are, becomes what it is by 256, left over");
-        int[] draws = {0, 1, 2, 3, 255, 256, 65535, 65536, 12345, 1 << 30, MOST - 1, MOST, 1103527590, 4, 5, 6, 7, 8, 9, 10, 11,
-            12, 13, 14, 15};
+        saysTerm(3,
+            "the place that it is by 65536, left over by how many there are, becomes what it is by 256, left over");
+        int[] draws = {0, 1, 2, 3, 4, 5, 6, 7, 8, 9, 10, 11, 12, 13, 14, 15, 255, 256, 12345, 65535, 65536, 1 << 30,
+            1103527590, MOST - 1, MOST};
         int[] primes = {2, 7, 97};
         int hit = 0;
         for (int width = 1; width <= 6; width++) {
@@ -190,7 +194,8 @@ public final class DoneEdgeTest extends Bench {
         String ready = "'b1,2,3=4,5'; matrix(); seed(77); image();";
         String[] sorts = {"change(0, 6)", "change(2, 0)", "put(0, 6)", "put(1, 0)", "shape(0)", "shape(4)", "widen()",
             "cut()", "turn()", "drift(1)"};
-        saysTerm(3, "the latest of what is CHANGED, SHAPED, WIDER, CUT, TURNED, a turn of a DRIFT is as it had not been");
+        saysTerm(3,
+            "the latest of what is CHANGED, SHAPED, WIDER, CUT, TURNED, a turn of a DRIFT is as it had not been");
         for (String sort : sorts) {
             due("count(7) behind " + sort, Script.ask(Script.ready(ready + sort), "count(7)"), 1);
             due("undo() of " + sort, Script.ask(Script.ready(ready + sort), "undo()"), 0);
@@ -216,15 +221,8 @@ public final class DoneEdgeTest extends Bench {
         run("prime(97); " + changes(1, 50) + "count(7) = 8; " + undos(7, 0) + "LINE = 42; undo() = NONE");
         says(16, "UNDONE: how many more may be");
         run("prime(97); " + changes(1, 8) + "undo() = 7; LINE = 7; undo() = 6; LINE = 6; undo() = 5; LINE = 5;"
-            + "undo() = 4; LINE = 4; undo() = 3; LINE = 3; undo() = 2; LINE = 2; undo() = 1; LINE = 1; undo() = 0; LINE = 0");
-    }
-
-    private static String changes(int from, int to) {
-        StringBuilder calls = new StringBuilder();
-        for (int v = from; v <= to; v++) {
-            calls.append("change(0, ").append(v).append(");");
-        }
-        return calls.toString();
+            + "undo() = 4; LINE = 4; undo() = 3; LINE = 3; undo() = 2; LINE = 2; undo() = 1; LINE = 1;"
+            + "undo() = 0; LINE = 0");
     }
 
     private static String undos(int from, int to) {
@@ -260,7 +258,8 @@ public final class DoneEdgeTest extends Bench {
         leaves(SEVEN_TURNS + "'s1'; matrix()", NONE, "undo()");
         leaves(SEVEN_TURNS + "prime(5)", NONE, "undo()");
         saysTerm(3, "a MATRIX, a PRIME that are refused leave what may be UNDONE");
-        run(SEVEN_TURNS + "'s1,'; matrix() = -23; count(7) = 7; prime(7) = NOT; count(7) = 7; prime(8) = BAD; undo() = 6");
+        run(SEVEN_TURNS + "'s1,'; matrix() = -23; count(7) = 7; prime(7) = NOT; count(7) = 7; prime(8) = BAD;"
+            + "undo() = 6");
         saysTerm(3, "what is refused is not among what may be UNDONE");
         run("change(0, 0) = NOT; put(0, 0) = NOT; shape(0) = NOT; cut() = NOT; change(1, 1) = BAD; put(1, 1) = BAD;"
             + "shape(5) = BAD; drift(0) = BAD; drift(41) = BAD; count(7) = 0");

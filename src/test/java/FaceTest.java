@@ -31,7 +31,10 @@ public final class FaceTest {
         for (Class<?> inside : type.getDeclaredClasses()) {
             check.due(inside.getName() + " is static", Modifier.isStatic(inside.getModifiers()) ? 1 : 0, 1);
             check.due(inside.getName() + " is public", Modifier.isPublic(inside.getModifiers()) ? 1 : 0, 0);
+            checkState(check, inside);
         }
+        checkState(check, type);
+        check.due("twelve classes at most", type.getDeclaredClasses().length < 12 ? 1 : 0, 1);
         checkSource(check, Path.of(args.length > 0 ? args[0] : ".").resolve("src/main/java/LeanDiagonals.java"));
         check.close("FaceTest");
     }
@@ -55,6 +58,19 @@ public final class FaceTest {
                 Modifier.PUBLIC | Modifier.STATIC | Modifier.FINAL);
             check.due(CONSTANTS[i], field.getInt(null), VALUES[i]);
         }
+    }
+
+    /** Static fields are final, and a class has some twenty others at most. */
+    private static void checkState(Check check, Class<?> type) {
+        int others = 0;
+        for (Field field : type.getDeclaredFields()) {
+            if (Modifier.isStatic(field.getModifiers())) {
+                check.due(field + " is final", Modifier.isFinal(field.getModifiers()) ? 1 : 0, 1);
+            } else {
+                others++;
+            }
+        }
+        check.due(type.getName() + " has twenty fields at most", others <= 20 ? 1 : 0, 1);
     }
 
     private static void checkMethods(Check check, Class<?> type) {
@@ -92,5 +108,23 @@ public final class FaceTest {
         for (String word : BARRED) {
             check.due("the file has '" + word + "'", source.contains(word) ? 1 : 0, 0);
         }
+        checkLengths(check, source.split("\n"));
+    }
+
+    /** A method begins with a line that ends in ") {" and ends with a brace as far in as that line. */
+    private static void checkLengths(Check check, String[] lines) {
+        int methods = 0;
+        for (int from = 0; from < lines.length; from++) {
+            if (lines[from].matches(" {4,8}[a-zA-Z].*\\) \\{") && !lines[from].matches(" +(if|for|while|switch|do) .*")) {
+                String end = lines[from].replaceAll("[^ ].*", "") + "}";
+                int to = from;
+                while (to < lines.length && !lines[to].equals(end)) {
+                    to++;
+                }
+                methods++;
+                check.due("sixty lines at most:" + lines[from], to - from < 60 ? 1 : 0, 1);
+            }
+        }
+        check.due("methods were found", methods > 50 ? 1 : 0, 1);
     }
 }

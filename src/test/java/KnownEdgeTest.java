@@ -194,6 +194,7 @@ public final class KnownEdgeTest extends Bench {
         String beyond = "prime(2); 'e1,0,0,0,1'; matrix(); turn(); turn();";
         leaves(beyond, NONE, "mend(0)", "mend(1)");
         leaves("prime(3); 'n0,1,0,1,0'; matrix();", NONE, "mend(0)", "mend(1)");
+        leaves("prime(2); 'r0,1,1,1,0,0,1,1,1,0,0'; matrix();", NONE, "mend(0)", "mend(1)");
         says(23, "of several: BAD ahead of NOT and of NONE");
         leaves(BUSY, BAD, "mend(-1)", "mend(2)");
         leaves(beyond, BAD, "mend(-1)", "mend(2)");
@@ -216,7 +217,8 @@ public final class KnownEdgeTest extends Bench {
         run(ZEROS + "count(6) = 0; term(1) = BAD; term(0) = BAD; next(0) = 0; next(20) = 0");
         leaves("", BAD, "term(0)", "term(1)");
         saysTerm(2, "L: at most as many as THE LINE has");
-        run("'s0,0,0,0,0,0,0,0,0,0,3'; matrix(); count(6) = 11; term(1) = 0; term(11) = 0; term(12) = BAD; next(0) = 0; next(20) = 0");
+        run("'s0,0,0,0,0,0,0,0,0,0,3'; matrix(); count(6) = 11; term(1) = 0; term(11) = 0; term(12) = BAD;"
+            + "next(0) = 0; next(20) = 0");
         run("change(0, 3); count(6) = 1; term(1) = 0; term(2) = BAD; next(0) = 0");
         run("'s0,0,3'; matrix(); count(6) = 3; term(3) = 0; term(4) = BAD");
         saysTerm(2, "the shortest row");
@@ -238,13 +240,15 @@ public final class KnownEdgeTest extends Bench {
         saysTerm(2, "NEXT: the k-th number that would go on behind THE LINE by it");
         run("'s1,3,2'; matrix(); next(0) = 6; next(1) = 4; next(5) = 2; next(6) = 6; next(20) = 5");
         run("prime(97); 's1,5,25,28,43,21,8,40,6,30,53'; matrix(); count(6) = 1; next(0) = 71; next(20) = 7");
-        run("prime(97); 's1,1,2,3,5,8,13,21,34,55,89'; matrix(); count(6) = 2; next(0) = 47; next(1) = 39; next(19) = 6; next(20) = 77");
+        run("prime(97); 's1,1,2,3,5,8,13,21,34,55,89'; matrix(); count(6) = 2; next(0) = 47; next(1) = 39;"
+            + "next(19) = 6; next(20) = 77");
         run("prime(2); 's1,1,1'; matrix(); next(0) = 1; next(20) = 1");
     }
 
     private void odds() {
         says(26, "WIPED by c of 10 (0 .. 10). BAD");
-        leaves(BUSY, BAD, "wiped(-1, 0)", "wiped(11, 0)", "wiped(-1, 1)", "wiped(11, 1)", "wiped(LEAST, 0)", "wiped(MOST, 1)");
+        leaves(BUSY, BAD, "wiped(-1, 0)", "wiped(11, 0)", "wiped(-1, 1)", "wiped(11, 1)", "wiped(LEAST, 0)",
+            "wiped(MOST, 1)");
         says(26, "above (what 0), below (1). BAD");
         leaves(BUSY, BAD, "wiped(5, -1)", "wiped(5, 2)", "wiped(0, LEAST)", "wiped(10, MOST)");
         saysTerm(2, "by 0 of 10: all is as it is");
@@ -257,14 +261,22 @@ public final class KnownEdgeTest extends Bench {
         run("'e1,2,3'; matrix(); wiped(1, 0) = 1; wiped(1, 1) = 100; wiped(9, 0) = 81; wiped(9, 1) = 100");
         run("'s1,2,3'; matrix(); wiped(5, 0) = 3; wiped(5, 1) = 8; wiped(1, 0) = 19; wiped(1, 1) = 1000");
         saysTerm(2, "how likely: all numbers of the longest LINE count");
-        run("prime(97); 's" + FILLED + "wiped(1, 0) = 3786023; wiped(1, 1) = 20000000000; wiped(9, 0) = 3318101091; wiped(9, 1) = 4000000000");
+        run("prime(97); 's" + FILLED + "wiped(1, 0) = 3786023; wiped(1, 1) = 20000000000;"
+            + "wiped(9, 0) = 3318101091; wiped(9, 1) = 4000000000");
         run("prime(97); 's1,2,3,4,5,6,7,8,9,10,11'; matrix(); wiped(1, 0) = 11196773291; wiped(1, 1) = 20000000000");
-        run("prime(97); 'e" + FILLED + "wiped(1, 0) = 109; wiped(1, 1) = 1000000; shape(3); wiped(1, 0) = 119557; shape(4); wiped(1, 0) = 6751");
+        run("prime(97); 's" + FILLED + "wiped(9, 0) = 3318101091; shape(1); wiped(9, 0) = 3318101091;"
+            + "wiped(1, 0) = 3786023");
+        run("prime(97); 'e" + FILLED + "wiped(1, 0) = 109; wiped(1, 1) = 1000000; shape(3);"
+            + "wiped(1, 0) = 119557; shape(4); wiped(1, 0) = 6751");
+        says(26, "how likely: one number alone, of each KIND");
+        run("change(0, 4); wiped(3, 0) = 3; shape(1); wiped(3, 0) = 3; shape(2); wiped(3, 0) = 3; shape(3);"
+            + "wiped(3, 0) = 3; shape(4); wiped(3, 0) = 3; wiped(3, 1) = 10");
         says(26, "what was asked ahead of a change counts for nothing");
-        run("'s3'; matrix(); wiped(0, 0) = 0; change(0, 0); wiped(0, 0) = 1; undo(); wiped(0, 0) = 0; widen(); wiped(0, 0) = 0;"
-            + "shape(1); wiped(0, 0) = 0; change(1, 0); wiped(0, 0) = 1");
+        run("'s3'; matrix(); wiped(0, 0) = 0; change(0, 0); wiped(0, 0) = 1; undo(); wiped(0, 0) = 0; widen();"
+            + "wiped(0, 0) = 0; shape(1); wiped(0, 0) = 0; change(1, 0); wiped(0, 0) = 1");
         run("'s1,2,1'; matrix(); wiped(0, 0) = 0; prime(3); wiped(0, 0) = 1; prime(5); wiped(0, 0) = 0");
-        run("'s1,2,2'; matrix(); wiped(0, 0) = 0; shape(2); wiped(0, 0) = 1; image(); shape(0); wiped(0, 0) = 0; restore(); wiped(0, 0) = 1");
+        run("'s1,2,2'; matrix(); wiped(0, 0) = 0; shape(2); wiped(0, 0) = 1; image(); shape(0); wiped(0, 0) = 0;"
+            + "restore(); wiped(0, 0) = 1");
     }
 
     private void oddsInLowestTerms() {
@@ -286,6 +298,13 @@ public final class KnownEdgeTest extends Bench {
             + "restore() = 1; LINE = 3; count(7) = 2; undo() = 1; LINE = 2; undo() = 0; LINE = 1; undo() = NONE");
         run("turn(); turn(); image(); prime(2); undo() = NONE; restore(); count(7) = 2; count(2) = 7");
         run("image(); turn(); turn(); restore(); count(7) = 0; undo() = NONE");
+        says(27, "what may be UNDONE is kept, though older ones be lost ahead of it and behind it");
+        String tens = "prime(97); " + changes(1, 10);
+        alike(tens + "image(); " + changes(1, 3) + "restore()", tens + "image()");
+        run(tens + "image(); " + changes(1, 3) + "restore(); LINE = 10; undo() = 7; LINE = 9; undo() = 6;"
+            + "LINE = 8; undo() = 5;"
+            + "LINE = 7; undo() = 4; LINE = 6; undo() = 3; LINE = 5; undo() = 2; LINE = 4; undo() = 1; LINE = 3;"
+            + "undo() = 0; LINE = 2; undo() = NONE");
         says(27, "All but SHEETS");
         run("sheet(0, 0, 3); image(); sheet(0, 1, 7); sheet(1, 2, 5); restore(); drop(0) = 7; drop(1) = 5");
         run("sheet(0, 0, 3); image(); drop(0); restore(); drop(0) = NULL");
@@ -296,7 +315,8 @@ public final class KnownEdgeTest extends Bench {
         run("change(0, 1); image(); change(0, 2); image(); change(0, 3); restore() = 1; LINE = 2");
         says(27, "image changes nothing but the IMAGE");
         alike("prime(11); 'b1,2=3'; turn(); image(); image()", "prime(11); 'b1,2=3'; turn(); image()");
-        run("'b1,2,3=4,5'; matrix(); turn(); image() = 1; LINE = 3,2,1; RIGHT = 4,5; count(7) = 1; undo() = 0; LINE = 1,2,3");
+        run("'b1,2,3=4,5'; matrix(); turn(); image() = 1; LINE = 3,2,1; RIGHT = 4,5; count(7) = 1; undo() = 0;"
+            + "LINE = 1,2,3");
     }
 
     private void restores() {
@@ -304,10 +324,11 @@ public final class KnownEdgeTest extends Bench {
         leaves("", NONE, "restore()");
         leaves("prime(11); 'b1,2,3=4,5'; matrix(); turn(); seed(4); sheet(0, 0, 2); 's'", NONE, "restore()");
         says(28, "All is as it was then: 1");
-        run("prime(97); seed(12); 'n96,95,94=93,92'; matrix(); image(); prime(2); seed(1); 's1'; matrix(); restore() = 1;"
-            + "count(0) = 2; count(1) = 4; count(2) = 97; LINE = 96,95,94; RIGHT = 93,92; seed(1) = 12");
+        run("prime(97); seed(12); 'n96,95,94=93,92'; matrix(); image(); prime(2); seed(1); 's1'; matrix();"
+            + "restore() = 1; count(0) = 2; count(1) = 4; count(2) = 97; LINE = 96,95,94; RIGHT = 93,92; seed(1) = 12");
         says(28, "the IMAGE stays as it is, whatever is done behind a restore");
-        run("change(0, 3); image(); restore() = 1; change(0, 4); undo(); undo(); restore() = 1; LINE = 3; count(7) = 1; restore() = 1");
+        run("change(0, 3); image(); restore() = 1; change(0, 4); undo(); undo(); restore() = 1; LINE = 3;"
+            + "count(7) = 1; restore() = 1");
         says(28, "a restore is not among what may be UNDONE");
         run("image(); turn(); restore() = 1; count(7) = 0; undo() = NONE");
         run("change(0, 5); image(); change(0, 6); restore() = 1; undo() = 0; LINE = 0");

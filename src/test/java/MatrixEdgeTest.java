@@ -109,7 +109,8 @@ public final class MatrixEdgeTest extends Bench {
         run("prime(97); 's96,95,94=96,1'; matrix(); prime(2) = 97; LINE = 0,1,0; RIGHT = 0,1");
         run("prime(2); 's1,0,1=1,0'; matrix(); prime(97) = 2; LINE = 1,0,1; RIGHT = 1,0");
         says(2, "all numbers are what is left over by it, sums, products too");
-        run("'s6,5,6'; matrix(); count(5) = 3; prime(5); count(5) = 4; prime(2); count(5) = 1; prime(97); count(5) = 96");
+        run("'s6,5,6'; matrix(); count(5) = 3; prime(5); count(5) = 4; prime(2); count(5) = 1; prime(97);"
+            + "count(5) = 96");
         saysTerm(3, "THE PRIME told leave nothing to be UNDONE");
         run("'s1,2,3'; matrix(); change(0, 6); turn(); count(7) = 2; prime(5) = 7; count(7) = 0; undo() = NONE;"
             + "LINE = 3,2,1; change(0, 0); count(7) = 1; undo() = 0; LINE = 3,2,1");
@@ -186,15 +187,20 @@ public final class MatrixEdgeTest extends Bench {
     private void entriesByKind() {
         String line = "1,2,3,4,5,6,0,1,2,3,4'; matrix();";
         saysTerm(1, "0 SLANT: THE LINE at MIDDLE and i, less j");
-        run("'s" + line + "ENTRIES = 6 5 4 3 2 1 / 0 6 5 4 3 2 / 1 0 6 5 4 3 / 2 1 0 6 5 4 / 3 2 1 0 6 5 / 4 3 2 1 0 6");
+        run("'s" + line
+            + "ENTRIES = 6 5 4 3 2 1 / 0 6 5 4 3 2 / 1 0 6 5 4 3 / 2 1 0 6 5 4 / 3 2 1 0 6 5 / 4 3 2 1 0 6");
         saysTerm(1, "1 BACK: as SLANT, of the column from behind (WIDTH less 1, less j)");
-        run("'b" + line + "ENTRIES = 1 2 3 4 5 6 / 2 3 4 5 6 0 / 3 4 5 6 0 1 / 4 5 6 0 1 2 / 5 6 0 1 2 3 / 6 0 1 2 3 4");
+        run("'b" + line
+            + "ENTRIES = 1 2 3 4 5 6 / 2 3 4 5 6 0 / 3 4 5 6 0 1 / 4 5 6 0 1 2 / 5 6 0 1 2 3 / 6 0 1 2 3 4");
         saysTerm(1, "2 EVEN: as SLANT of the greater one of i, j and the lesser one");
-        run("'e" + line + "ENTRIES = 6 0 1 2 3 4 / 0 6 0 1 2 3 / 1 0 6 0 1 2 / 2 1 0 6 0 1 / 3 2 1 0 6 0 / 4 3 2 1 0 6");
+        run("'e" + line
+            + "ENTRIES = 6 0 1 2 3 4 / 0 6 0 1 2 3 / 1 0 6 0 1 2 / 2 1 0 6 0 1 / 3 2 1 0 6 0 / 4 3 2 1 0 6");
         saysTerm(1, "3 ROUND: as SLANT of the row i less j (WIDTH more, where that is below 0), column 0");
-        run("'r" + line + "ENTRIES = 6 4 3 2 1 0 / 0 6 4 3 2 1 / 1 0 6 4 3 2 / 2 1 0 6 4 3 / 3 2 1 0 6 4 / 4 3 2 1 0 6");
+        run("'r" + line
+            + "ENTRIES = 6 4 3 2 1 0 / 0 6 4 3 2 1 / 1 0 6 4 3 2 / 2 1 0 6 4 3 / 3 2 1 0 6 4 / 4 3 2 1 0 6");
         saysTerm(1, "4 SIGN: as EVEN; but, where i is less than j, 0 less that");
-        run("'n" + line + "ENTRIES = 6 0 6 5 4 3 / 0 6 0 6 5 4 / 1 0 6 0 6 5 / 2 1 0 6 0 6 / 3 2 1 0 6 0 / 4 3 2 1 0 6");
+        run("'n" + line
+            + "ENTRIES = 6 0 6 5 4 3 / 0 6 0 6 5 4 / 1 0 6 0 6 5 / 2 1 0 6 0 6 / 3 2 1 0 6 0 / 4 3 2 1 0 6");
     }
 
     private void entriesAtTheEdges() {
@@ -245,7 +251,8 @@ public final class MatrixEdgeTest extends Bench {
         run("'b1,0,0,0,0,0,0,0,0,0,0'; matrix(); count(4) = 124");
         run("count(4) = 2; change(0, 1); count(4) = 0");
         says(8, "5 CORNER WIDTH: 0, 1, THE PRIME less 1");
-        run("count(5) = 0; change(0, 1); count(5) = 1; change(0, 6); count(5) = 6; prime(97); change(0, 96); count(5) = 96");
+        run("count(5) = 0; change(0, 1); count(5) = 1; change(0, 6); count(5) = 6; prime(97); change(0, 96);"
+            + "count(5) = 96");
         says(8, "6 L of the LAW (0: all are 0; at most as many as THE LINE has)");
         run("count(6) = 0; change(0, 1); count(6) = 1");
         run("'s0,0,0,0,0,0,0,0,0,0,0'; matrix(); count(6) = 0; change(10, 1); count(6) = 11; turn(); count(6) = 1");

@@ -1,7 +1,8 @@
 /** Sentence by sentence, the edges of SHEETS: promises 29 to 35, and their part of ==== 3. */
 public final class SheetEdgeTest extends Bench {
     /** Width 6 and the longest sheets, so that every limit is at its greatest. */
-    private static final String WIDEST = "'s1,2,3,4,5,6,0,1,2,3,4=5,6,0,1,2,3'; matrix(); sheet(0, 1, 24); sheet(3, 1, 24);";
+    private static final String WIDEST = "'s1,2,3,4,5,6,0,1,2,3,4=5,6,0,1,2,3'; matrix(); sheet(0, 1, 24);"
+        + "sheet(3, 1, 24);";
     private static final String FILLED = "5,17,3,44,90,61,8,29,73,12,50'; matrix();";
     /** 2 1, 3 2 by 7, and an X of 1, 4 that makes 6, 4 between items that are none of its. */
     private static final String BETWEEN = "'s1,2,3'; matrix(); sheet(0, 2, 6); item(0, 2, 0, 50); item(0, 2, 1, 1);"
@@ -99,7 +100,8 @@ public final class SheetEdgeTest extends Bench {
                 + "came(1, 3, 2) = " + (1 << kind) + "; shape(" + (kind + 1) % 5 + "); came(1, 3, 2) = " + (1 << kind));
         }
         saysTerm(3, "X first, then THE RIGHT that comes of it");
-        run("'s1,2,3'; matrix(); sheet(0, 0, 4); item(0, 0, 0, 1); item(0, 0, 2, 2); item(0, 0, 3, 3); came(0, 0, 0) = 29;"
+        run("'s1,2,3'; matrix(); sheet(0, 0, 4); item(0, 0, 0, 1); item(0, 0, 2, 2); item(0, 0, 3, 3);"
+            + "came(0, 0, 0) = 29;"
             + "item(0, 0, 0, 2); item(0, 0, 1, 3); item(0, 0, 2, 1); item(0, 0, 3, 0); came(0, 0, 0) = 0");
         says(29, "taken as a row of each LANE");
         for (int lane = 0; lane < 4; lane++) {
@@ -143,7 +145,8 @@ public final class SheetEdgeTest extends Bench {
         says(30, "taken as a row of each LANE");
         for (int lane = 0; lane < 4; lane++) {
             String of = "(3, " + lane + ", ";
-            items("prime(97); 's2'; matrix(); sheet" + of + "3); item" + of + "1, 48); apply" + of + "1)", 3, lane, 0, 48, 96);
+            items("prime(97); 's2'; matrix(); sheet" + of + "3); item" + of + "1, 48);"
+                + "apply" + of + "1)", 3, lane, 0, 48, 96);
         }
     }
 
@@ -173,9 +176,11 @@ public final class SheetEdgeTest extends Bench {
         says(31, "WAYS, 9 at most");
         run("change(0, 1); sheet(0, 0, 6); film(0, 0, 0) = 1");
         String sheet = "sheet(0, 0, 6);";
-        run(sheet + "prime(2); film(0, 0, 0) = 2; prime(3); film(0, 0, 0) = 3; prime(7); film(0, 0, 0) = 7; prime(11); film(0, 0, 0) = 9");
+        run(sheet + "prime(2); film(0, 0, 0) = 2; prime(3); film(0, 0, 0) = 3; prime(7); film(0, 0, 0) = 7;"
+            + "prime(11); film(0, 0, 0) = 9");
         run(sheet + "prime(2); 's0,0,0,0,0'; matrix(); film(0, 0, 0) = 8; widen(); film(0, 0, 0) = 9");
-        run(sheet + "prime(3); 's0,0,0'; matrix(); film(0, 0, 0) = 9; prime(97); widen(); widen(); widen(); widen(); film(0, 0, 0) = 9");
+        run(sheet + "prime(3); 's0,0,0'; matrix(); film(0, 0, 0) = 9; prime(97); widen(); widen(); widen();"
+            + "widen(); film(0, 0, 0) = 9");
         says(31, "SHEETS alone are others then");
         run(many + "turn(); turn(); film(1, 1, 1); count(7) = 2; LINE = 2,1,4; RIGHT = 3,5");
         says(31, "taken as a row of each LANE");
@@ -207,8 +212,8 @@ public final class SheetEdgeTest extends Bench {
         says(32, "of several: BAD ahead of SIZE");
         leaves(BUSY, BAD, "sheet(-1, 0, -1)", "sheet(4, 0, -1)", "sheet(0, -1, -1)", "sheet(0, 4, LEAST)");
         says(32, "0 to 24 items: n");
-        run("sheet(0, 0, 0) = 0; sheet(1, 1, 1) = 1; sheet(2, 2, 23) = 23; sheet(3, 3, 24) = 24; drop(0) = 0; drop(1) = 1;"
-            + "drop(2) = 23; drop(3) = 24");
+        run("sheet(0, 0, 0) = 0; sheet(1, 1, 1) = 1; sheet(2, 2, 23) = 23; sheet(3, 3, 24) = 24; drop(0) = 0;"
+            + "drop(1) = 1; drop(2) = 23; drop(3) = 24");
         says(32, "holds a new row: its items are 0, whatever it held");
         items("sheet(0, 0, 2); item(0, 0, 0, 5); item(0, 0, 1, 6); sheet(0, 0, 2)", 0, 0, 0, 0);
         items("sheet(0, 0, 1); item(0, 0, 0, 5); sheet(0, 0, 0); sheet(0, 0, 2)", 0, 0, 0, 0);
@@ -231,7 +236,8 @@ public final class SheetEdgeTest extends Bench {
         says(33, "a row of no items is not nothing");
         run("sheet(0, 0, 0); drop(0) = 0; drop(0) = NULL");
         says(33, "the other SHEETS stay");
-        run("sheet(0, 0, 3); sheet(1, 1, 4); sheet(2, 2, 5); sheet(3, 3, 6); drop(1) = 4; drop(0) = 3; drop(3) = 6; drop(2) = 5");
+        run("sheet(0, 0, 3); sheet(1, 1, 4); sheet(2, 2, 5); sheet(3, 3, 6); drop(1) = 4; drop(0) = 3;"
+            + "drop(3) = 6; drop(2) = 5");
     }
 
     private void lowestBits() {
@@ -290,25 +296,28 @@ public final class SheetEdgeTest extends Bench {
 
     private void copyRefusals() {
         says(35, "copy: sheets 0 .. 3. BAD");
-        leaves(rows(), BAD, "copy(-1, 0, 0, 0, 1)", "copy(4, 0, 0, 0, 1)", "copy(0, 0, -1, 0, 1)", "copy(0, 0, 4, 0, 1)",
-            "copy(LEAST, 0, 0, 0, 1)", "copy(0, 0, MOST, 0, 1)");
+        leaves(rows(), BAD, "copy(-1, 0, 0, 0, 1)", "copy(4, 0, 0, 0, 1)", "copy(0, 0, -1, 0, 1)",
+            "copy(0, 0, 4, 0, 1)", "copy(LEAST, 0, 0, 0, 1)", "copy(0, 0, MOST, 0, 1)");
         says(35, "NULL (either)");
-        leaves(rows(), NULL, "copy(3, 0, 0, 0, 1)", "copy(0, 0, 3, 0, 1)", "copy(3, 0, 3, 0, 1)", "copy(3, 0, 3, 0, 0)");
+        leaves(rows(), NULL, "copy(3, 0, 0, 0, 1)", "copy(0, 0, 3, 0, 1)", "copy(3, 0, 3, 0, 1)",
+            "copy(3, 0, 3, 0, 0)");
         says(35, "CAST: of unlike LANES");
         leaves(rows(), CAST, "copy(0, 0, 2, 0, 1)", "copy(2, 0, 0, 0, 1)", "copy(0, 0, 2, 0, 0)");
         says(35, "of several: BAD, NULL, CAST, INDEX");
-        leaves(rows(), BAD, "copy(3, 0, 4, 0, 1)", "copy(-1, 0, 3, 0, 1)", "copy(4, -1, 2, -1, -1)", "copy(2, 9, 4, 9, 9)");
+        leaves(rows(), BAD, "copy(3, 0, 4, 0, 1)", "copy(-1, 0, 3, 0, 1)", "copy(4, -1, 2, -1, -1)",
+            "copy(2, 9, 4, 9, 9)");
         leaves(rows(), NULL, "copy(3, -1, 0, 0, 1)", "copy(0, -1, 3, 0, -1)", "copy(2, 9, 3, 9, 9)");
-        leaves(rows(), CAST, "copy(0, -1, 2, 0, 1)", "copy(2, 0, 1, 9, 1)", "copy(0, 0, 2, 0, -1)", "copy(0, 0, 2, 0, 99)");
+        leaves(rows(), CAST, "copy(0, -1, 2, 0, 1)", "copy(2, 0, 1, 9, 1)", "copy(0, 0, 2, 0, -1)",
+            "copy(0, 0, 2, 0, 99)");
     }
 
     private void copyIndexes() {
         says(35, "INDEX: from i on");
-        leaves(rows(), INDEX, "copy(0, -1, 1, 0, 1)", "copy(0, 5, 1, 0, 1)", "copy(0, 2, 1, 0, 4)", "copy(0, 6, 1, 0, 0)",
-            "copy(0, -1, 1, 0, 0)", "copy(0, LEAST, 1, 0, 1)");
+        leaves(rows(), INDEX, "copy(0, -1, 1, 0, 1)", "copy(0, 5, 1, 0, 1)", "copy(0, 2, 1, 0, 4)",
+            "copy(0, 6, 1, 0, 0)", "copy(0, -1, 1, 0, 0)", "copy(0, LEAST, 1, 0, 1)");
         says(35, "INDEX: from j on");
-        leaves(rows(), INDEX, "copy(0, 0, 1, -1, 1)", "copy(0, 0, 1, 4, 1)", "copy(0, 0, 1, 1, 4)", "copy(0, 0, 1, 0, 5)",
-            "copy(0, 0, 1, 5, 0)", "copy(0, 0, 1, -1, 0)", "copy(0, 0, 1, LEAST, 1)");
+        leaves(rows(), INDEX, "copy(0, 0, 1, -1, 1)", "copy(0, 0, 1, 4, 1)", "copy(0, 0, 1, 1, 4)",
+            "copy(0, 0, 1, 0, 5)", "copy(0, 0, 1, 5, 0)", "copy(0, 0, 1, -1, 0)", "copy(0, 0, 1, LEAST, 1)");
         says(35, "INDEX: n below 0, as the machine finds it");
         leaves(rows(), INDEX, "copy(0, 0, 1, 0, -1)", "copy(0, 1, 1, 1, -1)", "copy(0, 0, 1, 0, LEAST)");
         says(35, "INDEX: sums that would wrap around");

@@ -131,7 +131,8 @@ public final class TextEdgeTest extends Bench {
         saysTerm(3, "THE RIGHT; else 0");
         run("'s1,2,3=4,5'; matrix(); 's1,2,3'; matrix() = 2; RIGHT = 0,0");
         run("'s1=6'; matrix(); 's1'; matrix() = 1; RIGHT = 0");
-        run("'" + ELEVEN_NUMBERS + "=1,2,3,4,5,6'; matrix(); '" + ELEVEN_NUMBERS + "'; matrix() = 6; RIGHT = 0,0,0,0,0,0");
+        run("'" + ELEVEN_NUMBERS + "=1,2,3,4,5,6'; matrix(); '" + ELEVEN_NUMBERS + "'; matrix() = 6;"
+            + "RIGHT = 0,0,0,0,0,0");
         saysTerm(3, "in place of all: a narrower one, then a wider one");
         run("'b" + ELEVEN_NUMBERS.substring(1) + "=1,2,3,4,5,6'; matrix(); 's5=6'; matrix() = 1; LINE = 5; RIGHT = 6;"
             + "count(1) = 0; widen(); LINE = 0,5,0; RIGHT = 6,0; 'n1,2,3,4,5'; matrix() = 3; LINE = 1,2,3,4,5;"
@@ -143,7 +144,8 @@ public final class TextEdgeTest extends Bench {
         run("change(0, 3); turn(); count(7) = 2; 's5'; matrix() = 1; count(7) = 0; undo() = NONE; LINE = 5");
         run("'s5'; matrix(); turn(); 's5'; matrix() = 1; undo() = NONE");
         says(4, "the IMAGE and SHEETS stay");
-        run("'s3=4'; matrix(); image(); sheet(1, 1, 7); 'e1,2,3'; matrix() = 2; drop(1) = 7; restore() = 1; LINE = 3; RIGHT = 4");
+        run("'s3=4'; matrix(); image(); sheet(1, 1, 7); 'e1,2,3'; matrix() = 2; drop(1) = 7; restore() = 1;"
+            + "LINE = 3; RIGHT = 4");
     }
 
     private void digits() {
