@@ -274,6 +274,7 @@ public final class KnownEdgeTest extends Bench {
         says(26, "what was asked ahead of a change counts for nothing");
         run("'s3'; matrix(); wiped(0, 0) = 0; change(0, 0); wiped(0, 0) = 1; undo(); wiped(0, 0) = 0; widen();"
             + "wiped(0, 0) = 0; shape(1); wiped(0, 0) = 0; change(1, 0); wiped(0, 0) = 1");
+        run("'s3'; matrix(); wiped(3, 0) = 3; 's3,0,0'; matrix(); wiped(3, 0) = 1; wiped(3, 1) = 1");
         run("'s1,2,1'; matrix(); wiped(0, 0) = 0; prime(3); wiped(0, 0) = 1; prime(5); wiped(0, 0) = 0");
         run("'s1,2,2'; matrix(); wiped(0, 0) = 0; shape(2); wiped(0, 0) = 1; image(); shape(0); wiped(0, 0) = 0;"
             + "restore(); wiped(0, 0) = 1");
