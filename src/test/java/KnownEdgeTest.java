@@ -204,6 +204,7 @@ public final class KnownEdgeTest extends Bench {
         run("'e1,2,2'; matrix(); mend(0) = 1; mend(1) = 0");
         run("prime(3); 'e1,0,1,0,1'; matrix(); mend(0) = 4; mend(1) = 0");
         run("prime(2); 's0,0,0'; matrix(); mend(0) = 1; mend(1) = 1");
+        run("prime(97); 'b0,0,0'; matrix(); mend(0) = 1; mend(1) = 1");
         saysTerm(2, "the least such number");
         run("'s0,0,0'; matrix(); mend(0) = 1; mend(1) = 1");
         run("'s0,0,1'; matrix(); mend(0) = 0; mend(1) = 1");
