@@ -1,9 +1,11 @@
 import java.util.Random;
 
-/** Long runs of drawn calls, each answered alike by the class and by the Oracle. */
+/** Runs of drawn calls, as many as an object is used for, each answered alike by the class and by the Oracle. */
 public final class AgreeTest {
-    private static final int RUNS = 600;
-    private static final int CALLS = 300;
+    private static final int RUNS = 1200;
+    /** An object is used for so many calls; what later ones answer is free, so none is asked. */
+    private static final int CALLS = 512;
+    private static final int LONGEST_STEP = 90, LOOKED_AT = 88;
     private static final int[] PRIMES = {2, 3, 5, 7, 11, 13, 17, 19, 23, 29, 31, 37, 41, 43, 47, 53, 59, 61, 67, 71,
         73, 79, 83, 89, 97};
     private static final int[] WILD = {-1, -2, 0, 25, 101, Integer.MAX_VALUE, Integer.MIN_VALUE};
@@ -14,6 +16,7 @@ public final class AgreeTest {
     private final LeanDiagonals made = new LeanDiagonals();
     private final Oracle oracle = new Oracle();
     private int prime = 7;
+    private int calls = 0;
 
     private AgreeTest(int run, Check check) {
         this.run = run;
@@ -30,7 +33,7 @@ public final class AgreeTest {
     }
 
     private void go() {
-        for (int call = 0; call < CALLS && check.wrong() == 0; call++) {
+        while (calls <= CALLS - LONGEST_STEP - LOOKED_AT && check.wrong() == 0) {
             int sort = random.nextInt(100);
             if (sort < 12) {
                 tellMatrix();
@@ -43,6 +46,10 @@ public final class AgreeTest {
             }
         }
         lookAtAll();
+        check.due("run " + run + ": calls left for the end", calls <= CALLS ? 1 : 0, 1);
+        while (calls < CALLS && check.wrong() == 0) {
+            askSomething();
+        }
     }
 
     /** Mostly 0 to most, now and then beyond. */
@@ -51,6 +58,7 @@ public final class AgreeTest {
     }
 
     private void due(String call, long got, long want) {
+        calls++;
         check.due("run " + run + ": " + call, got, want);
     }
 
@@ -123,7 +131,7 @@ public final class AgreeTest {
     private void tellPrime() {
         int p = random.nextInt(3) == 0 ? about(110) : PRIMES[random.nextInt(random.nextBoolean() ? 4 : PRIMES.length)];
         due("prime(" + p + ")", made.prime(p), oracle.prime(p));
-        prime = made.count(2);
+        prime = oracle.count(2);
     }
 
     private void keepOrRestore() {
@@ -131,7 +139,7 @@ public final class AgreeTest {
             due("image()", made.image(), oracle.image());
         } else {
             due("restore()", made.restore(), oracle.restore());
-            prime = made.count(2);
+            prime = oracle.count(2);
         }
     }
 
@@ -170,8 +178,10 @@ public final class AgreeTest {
 
     private void askOdds(int what) {
         int c = about(10);
-        if (made.count(0) < 5 || random.nextInt(12) == 0) {
+        if (oracle.count(0) < 5 || random.nextInt(12) == 0) {
             due("wiped(" + c + ", " + what + ")", made.wiped(c, what), oracle.wiped(c, what));
+        } else {
+            due("corner(" + c + ")", made.corner(c), oracle.corner(c));
         }
     }
 

@@ -4,7 +4,10 @@ import java.lang.reflect.Method;
 import java.lang.reflect.Modifier;
 import java.nio.file.Files;
 import java.nio.file.Path;
+import java.util.Set;
 import java.util.TreeSet;
+import java.util.regex.Matcher;
+import java.util.regex.Pattern;
 
 /** The class has the document's public face and no more, and its file keeps to LANGUAGE.md where a search can tell. */
 public final class FaceTest {
@@ -18,6 +21,7 @@ public final class FaceTest {
         "int item(int,int,int,long)", "int copy(int,int,int,int,int)"};
     private static final String[] CONSTANTS = {"BAD", "NOT", "FULL", "NONE", "NULL", "CAST", "INDEX", "SIZE"};
     private static final int[] VALUES = {-1, -2, -3, -4, -11, -12, -13, -14};
+    private static final Set<String> LIBRARY = Set.of("Integer.bitCount", "Math.abs", "Math.min", "System.arraycopy");
     private static final String[] BARRED = {"import ", "->", "::", "catch", "finally", "throw", "synchronized",
         "assert", "static {", "float", "double", "instanceof", "lambda", "System.out", "Exact("};
 
@@ -108,17 +112,24 @@ public final class FaceTest {
         for (String word : BARRED) {
             check.due("the file has '" + word + "'", source.contains(word) ? 1 : 0, 0);
         }
-        checkLengths(check, source.split("\n"));
+        Matcher used = Pattern.compile("\\b([A-Z][A-Za-z]+)\\.(\\w+)").matcher(source);
+        while (used.find()) {
+            check.due("the library has " + used.group(), LIBRARY.contains(used.group()) ? 1 : 0, 1);
+        }
+        checkBodies(check, source.split("\n"));
     }
 
     /** A method begins with a line that ends in ") {" and ends with a brace as far in as that line. */
-    private static void checkLengths(Check check, String[] lines) {
+    private static void checkBodies(Check check, String[] lines) {
         int methods = 0;
         for (int from = 0; from < lines.length; from++) {
             if (lines[from].matches(" {4,8}[a-zA-Z].*\\) \\{") && !lines[from].matches(" +(if|for|while|switch|do) .*")) {
                 String end = lines[from].replaceAll("[^ ].*", "") + "}";
                 int to = from;
+                boolean isConstructor = lines[from].matches(" +(public )?[A-Z]\\w*\\(.*");
                 while (to < lines.length && !lines[to].equals(end)) {
+                    boolean makes = !isConstructor && lines[to].matches(".*\\bnew .*");
+                    check.due("no call makes an object:" + lines[to], makes ? 1 : 0, 0);
                     to++;
                 }
                 methods++;

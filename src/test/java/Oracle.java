@@ -159,13 +159,25 @@ final class Oracle {
     }
 
     int count(int what) {
-        int w = now.width();
+        return switch (what) {
+            case 0 -> now.width();
+            case 1 -> now.kind;
+            case 2 -> p;
+            case 3 -> rank(table(now.kind, now.line));
+            case 4 -> singular();
+            case 5 -> corner(now.width());
+            case 6 -> law().length;
+            case 7 -> past.size();
+            default -> BAD;
+        };
+    }
+
+    private int singular() {
         int set = 0;
-        for (int k = 1; k <= w; k++) {
+        for (int k = 1; k <= now.width(); k++) {
             set += corner(k) == 0 ? 1 << k : 0;
         }
-        int[] all = {w, now.kind, p, rank(table(now.kind, now.line)), set, corner(w), law().length, past.size()};
-        return what < 0 || what >= all.length ? BAD : all[what];
+        return set;
     }
 
     // ---- what is done

@@ -1,5 +1,6 @@
 import java.lang.reflect.InvocationTargetException;
 import java.lang.reflect.Method;
+import java.lang.reflect.Modifier;
 import java.util.ArrayList;
 import java.util.List;
 
@@ -16,7 +17,8 @@ final class Script {
     private Script() {
     }
 
-    static void run(LeanDiagonals x, String text, Due due) {
+    /** The calls are made on an object of the class, or on an Oracle. */
+    static void run(Object x, String text, Due due) {
         for (String step : steps(text)) {
             int equals = step.startsWith("'") ? -1 : step.indexOf('=');
             if (step.startsWith("'")) {
@@ -32,37 +34,51 @@ final class Script {
     /** A new object, made ready by calls whose answers are not looked at. */
     static LeanDiagonals ready(String text) {
         LeanDiagonals x = new LeanDiagonals();
-        run(x, text, (call, got, want) -> {
-            throw new IllegalArgumentException("nothing is due in " + text);
-        });
+        makeReady(x, text);
         return x;
     }
 
-    static void type(LeanDiagonals x, String letters) {
+    static void makeReady(Object x, String text) {
+        run(x, text, (call, got, want) -> {
+            throw new IllegalArgumentException("nothing is due in " + text);
+        });
+    }
+
+    static void type(Object x, String letters) {
+        Method method = methodNamed(x, "type");
         for (int i = 0; i < letters.length(); i++) {
-            x.type(letters.charAt(i));
+            invoke(x, method, new long[] {letters.charAt(i)});
         }
     }
 
     /** The answer to one call, as "change(0, 7)". */
-    static long ask(LeanDiagonals x, String call) {
+    static long ask(Object x, String call) {
         int open = call.indexOf('(');
         if (open < 0 || !call.endsWith(")")) {
             throw new IllegalArgumentException("no call: " + call);
         }
-        Method method = methodNamed(call.substring(0, open).trim());
         String inside = call.substring(open + 1, call.length() - 1).trim();
         String[] told = inside.isEmpty() ? new String[0] : inside.split(",");
+        long[] values = new long[told.length];
+        for (int a = 0; a < told.length; a++) {
+            values[a] = number(told[a]);
+        }
+        return invoke(x, methodNamed(x, call.substring(0, open).trim()), values);
+    }
+
+    static long invoke(Object x, Method method, long[] values) {
         Class<?>[] types = method.getParameterTypes();
+        if (types.length != values.length) {
+            throw new IllegalArgumentException("other arguments: " + method);
+        }
         Object[] arguments = new Object[types.length];
         for (int a = 0; a < types.length; a++) {
-            long value = number(told[a]);
-            arguments[a] = types[a] == long.class ? (Object) value : (Object) Math.toIntExact(value);
+            arguments[a] = types[a] == long.class ? (Object) values[a] : (Object) Math.toIntExact(values[a]);
         }
         try {
             return ((Number) method.invoke(x, arguments)).longValue();
         } catch (IllegalAccessException | InvocationTargetException thrown) {
-            throw new IllegalStateException(call + " threw", thrown.getCause());
+            throw new IllegalStateException(method + " threw", thrown.getCause());
         }
     }
 
@@ -82,16 +98,16 @@ final class Script {
         };
     }
 
-    private static Method methodNamed(String name) {
-        for (Method method : LeanDiagonals.class.getMethods()) {
-            if (method.getName().equals(name) && method.getDeclaringClass() == LeanDiagonals.class) {
+    static Method methodNamed(Object x, String name) {
+        for (Method method : x.getClass().getDeclaredMethods()) {
+            if (method.getName().equals(name) && !Modifier.isPrivate(method.getModifiers())) {
                 return method;
             }
         }
         throw new IllegalArgumentException("no method: " + name);
     }
 
-    private static void dueStep(LeanDiagonals x, String what, String want, Due due) {
+    private static void dueStep(Object x, String what, String want, Due due) {
         switch (what) {
             case "LINE" -> dueRow("line", x, want, due);
             case "RIGHT" -> dueRow("right", x, want, due);
@@ -100,7 +116,7 @@ final class Script {
         }
     }
 
-    private static void dueRow(String name, LeanDiagonals x, String want, Due due) {
+    private static void dueRow(String name, Object x, String want, Due due) {
         String[] numbers = want.split(",");
         for (int k = -1; k <= numbers.length; k++) {
             String call = name + "(" + k + ")";
@@ -108,12 +124,13 @@ final class Script {
         }
     }
 
-    private static void dueEntries(LeanDiagonals x, String[] rows, Due due) {
-        due.due("count(0)", x.count(0), rows.length);
+    private static void dueEntries(Object x, String[] rows, Due due) {
+        due.due("count(0)", ask(x, "count(0)"), rows.length);
         for (int i = 0; i < rows.length; i++) {
             String[] numbers = rows[i].trim().split(" +");
             for (int j = 0; j < numbers.length; j++) {
-                due.due("entry(" + i + ", " + j + ")", x.entry(i, j), number(numbers[j]));
+                String call = "entry(" + i + ", " + j + ")";
+                due.due(call, ask(x, call), number(numbers[j]));
             }
         }
     }
